@@ -429,6 +429,14 @@ public final class PromiseTests {
                 calibrate(1, 0, 0) -> 59
                 best(1) -> throws NoSuchElementException
                 """);
+        Script.run("promise 12: the first standard of all can be the best", """
+                addItem(0, 0, 9, 0) -> 0
+                addItem(0, 0, 9, 0) -> 1
+                addItem(2, 0, 9, 0) -> 2
+                best(2) -> 0
+                set(1, 3, 2) -> 1
+                best(2) -> 0
+                """);
         Script.run("promise 12: an overdue standard is left out", CALIBRATED + """
                 set(0, 3, 999) -> 1
                 set(1, 1, 0) -> 10
@@ -463,6 +471,8 @@ public final class PromiseTests {
                 calibration(1, 7) -> 33
                 set(2, 1, 99) -> 3
                 calibration(1, 7) -> 1
+                set(2, 1, 1) -> 99
+                calibration(1, 7) -> 100
                 """);
         Script.run("rule 2 takes the change since the good calibration before", CHAIN + """
                 set(2, 2, 2) -> 0
@@ -585,6 +595,12 @@ public final class PromiseTests {
                 chain(4, 1) -> 3
                 calibration(0, 12) -> 2
                 calibration(3, 12) -> 1
+                """);
+        Script.run("promise 13: what is asked in between does not change the number of dependents", CALIBRATED + """
+                reach(1, 0, 0) -> 2
+                calibration(1, 12) -> 0
+                reach(0, 0, 0) -> 2
+                calibration(0, 12) -> 1
                 """);
         Script.run("promise 17: cause is the covered one nearest to the primary standard", chain + """
                 cause(2) -> throws NoSuchElementException
@@ -818,6 +834,21 @@ public final class PromiseTests {
                 again(1) -> throws IndexOutOfBoundsException
                 again(-1) -> throws IndexOutOfBoundsException
                 """);
+        Script.run("promise 24: by the first calibration of all, made later than day 0", CHAIN + """
+                pass(20) -> 20
+                calibrate(2, 0, 3) -> 0
+                pass(75) -> 95
+                measure(2, 20, 22) -> 0
+                measurement(0, 5) -> 5
+                again(0) -> 2
+                measure(2, 20, 21) -> 1
+                again(1) -> 1
+                set(2, 1, 8) -> 4
+                pass(25) -> 120
+                measure(2, 20, 22) -> 2
+                measurement(2, 5) -> 10
+                again(0) -> 1
+                """);
         Script.run("promise 24: a later calibration of the same day judges, an earlier one if it is recalled", CALIBRATED + """
                 pass(10) -> 10
                 calibrate(2, 0, 3) -> 2
@@ -914,6 +945,13 @@ public final class PromiseTests {
                 calibration(59, 11) -> 60
                 calibration(0, 12) -> 59
                 chain(59, 59) -> 0
+                alongChain(59) -> 1
+                reach(1, 0, 0) -> 60
+                recall(0, 0, 0) -> 0
+                cause(59) -> 0
+                account(2) -> 0
+                lift(0) -> 0
+                account(2) -> 60
                 set(2, 0, 999) -> 90
                 issue(2) -> throws UnsupportedOperationException
                 issue(1) -> 0
@@ -967,6 +1005,23 @@ public final class PromiseTests {
                 recall(3, 0, 0) -> 0
                 due(0) -> 0
                 due(2) -> throws NoSuchElementException
+                """);
+        Script.run("promise 29: an item is due on day 0", """
+                addItem(2, 0, 1, 0) -> 0
+                addItem(0, 0, 9, 0) -> 1
+                addItem(2, 0, 1, 0) -> 2
+                calibrate(0, 1, 0) -> 0
+                calibrate(2, 1, 0) -> 1
+                set(2, 2, 1) -> 0
+                item(2, 8) -> 0
+                item(2, 9) -> 1
+                due(0) -> 2
+                due(1) -> 0
+                set(0, 2, 1) -> 0
+                due(0) -> 0
+                due(1) -> 2
+                overdueWithin(0) -> 0
+                overdueWithin(1) -> 2
                 """);
         Script.run("promise 30: overdueWithin", CALIBRATED + """
                 overdueWithin(-1) -> throws IllegalArgumentException
@@ -1225,6 +1280,7 @@ public final class PromiseTests {
                 recall(0, 0, 0) -> 1
                 goodShare() -> 0.0
                 """);
+        Script.run("promise 36: one calibration", CHAIN + "calibrate(2, 0, 0) -> 0\ngoodShare() -> 1.0\n");
         Script.run("promise 36: without calibrations", CHAIN + "goodShare() -> throws ArithmeticException\n");
     }
 
@@ -1285,6 +1341,20 @@ public final class PromiseTests {
                 account(10) -> 7
                 undo() -> 6
                 today() -> 0
+                """);
+        Script.run("promise 37: what was undone leaves nothing behind", CHAIN + """
+                addItem(2, 0, 7, 7) -> 3
+                set(3, 2, 3) -> 0
+                calibrate(3, 0, 5) -> 0
+                recall(3, 0, 0) -> 0
+                4 x undo()
+                account(0) -> 3
+                addItem(2, 0, 900, 7) -> 3
+                item(3, 4) -> 0
+                item(3, 10) -> 0
+                item(3, 7) -> -1
+                calibrate(3, 0, 5) -> 0
+                calibration(0, 10) -> 1
                 """);
         Script.run("promise 37: older changes are forgotten, and new ones follow undone ones", """
                 12 x pass(1)
