@@ -940,7 +940,7 @@ public final class PromiseTests {
                 addItem(1, 0, 90, 0) -> 1
                 addItem(1, 0, 90, 0) -> 2
                 calibrate(1, 0, 0) -> 0
-                """ + "type cal 2 1 0;cal 1 2 0\nread() -> 2\n".repeat(29) + """
+                """ + "calibrate(2, 1, 0)\ncalibrate(1, 2, 0)\n".repeat(29) + """
                 calibrate(2, 1, -999) -> 59
                 calibration(59, 11) -> 60
                 calibration(0, 12) -> 59
