@@ -10,7 +10,7 @@ import java.util.Map;
  * "text" asks for all that was written last.
  */
 final class Player {
-    /** An object is promised for so many calls. */
+    /** An object is promised for so many calls; a test that asks it for more ends with an exception. */
     static final int MOST_CALLS = 512;
 
     private static final Map<String, Method> METHODS = new HashMap<>();
@@ -85,6 +85,9 @@ final class Player {
             arguments[index] = argument(types[index], words[index]);
         }
         calls++;
+        if (calls > MOST_CALLS) {
+            throw new IllegalStateException("the answer is free after so many calls: " + method.getName());
+        }
         try {
             Object answer = method.invoke(registry, arguments);
             return method.getReturnType() == void.class ? "done" : String.valueOf(answer);

@@ -1,3 +1,6 @@
+import java.util.ArrayList;
+import java.util.List;
+
 /** At least one script for each promise: ordinary inputs, the edges that the document names, and wrong inputs. */
 public final class PromiseTests {
     private static final String CHAIN = """
@@ -10,6 +13,10 @@ public final class PromiseTests {
             calibrate(1, 0, 0) -> 0
             calibrate(2, 1, 3) -> 1
             """;
+
+    private static final String[][] COMMANDS_AND_CALLS = {{"part 1 4", "part(1, 4)"}, {"cal 2 1 -5", "calibrate(2, 1, -5)"},
+        {"pass 7", "pass(7)"}, {"recall 0 0 0", "recall(0, 0, 0)"}, {"lift 0", "lift(0)"},
+        {"measure 2 -9 100", "measure(2, -9, 100)"}, {"cert 2", "issue(2)"}};
 
     public static void main(String[] args) {
         objectsAndItems();
@@ -621,6 +628,17 @@ public final class PromiseTests {
                 cause(3) -> throws IndexOutOfBoundsException
                 cause(-1) -> throws IndexOutOfBoundsException
                 """);
+        Script.run("promise 17: what is covered in another chain is no cause", CALIBRATED + """
+                recall(0, 0, 0) -> 0
+                cause(0) -> 0
+                cause(1) -> 0
+                pass(5) -> 5
+                calibrate(2, 0, 9) -> 2
+                cause(2) -> throws NoSuchElementException
+                recall(2, 5, 5) -> 1
+                cause(2) -> 2
+                cause(1) -> 0
+                """);
     }
 
     private static void recalls() {
@@ -1083,6 +1101,17 @@ public final class PromiseTests {
                 account(7) -> 0
                 today() -> 0
                 """);
+        for (String[] pair : COMMANDS_AND_CALLS) {
+            List<String> first = new ArrayList<>();
+            for (String line : (CALIBRATED + "recall(1, 3, 4) -> 0\npart(0, 3) -> 9\npass(1) -> 1").split("\n")) {
+                first.add(line.substring(0, line.indexOf(" -> ")));
+            }
+            List<String> byText = new ArrayList<>(first);
+            byText.addAll(List.of("type " + pair[0], "read()"));
+            first.add(pair[1]);
+            Script.count(Watch.state(byText).equals(Watch.state(first)), "promise 32: what a command does",
+                    pair[0] + " does something else than " + pair[1]);
+        }
         Script.run("promise 32: the input is empty afterwards", """
                 type pass 5
                 read() -> 1

@@ -43,9 +43,6 @@ final class Script {
                 wrong.append(runner.runLine(call));
             }
         }
-        if (runner.player.calls() > Player.MOST_CALLS) {
-            wrong.append("\n  has ").append(runner.player.calls()).append(" calls");
-        }
         count(wrong.length() == 0, name, wrong.toString());
     }
 

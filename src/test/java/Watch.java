@@ -89,7 +89,7 @@ final class Watch {
         return all.toString();
     }
 
-    private static String state(List<String> calls) {
+    static String state(List<String> calls) {
         Player counts = new Player(calls);
         int[] sizes = new int[10];
         for (int what = 0; what < sizes.length; what++) {
